@@ -40,15 +40,13 @@ public final class SleighPost {
     private static final int BAG_ANSWERS = 5;
     private static final int COUNT_ANSWERS = 9;
 
-    private final Ways ways;
     private final World now;
     /** Looking ahead plays on this copy, made once, so that no call leaves new objects behind. */
     private final World ahead;
 
     public SleighPost() {
-        ways = new Ways();
-        now = new World(ways);
-        ahead = new World(ways);
+        now = new World();
+        ahead = new World();
     }
 
     // ---- land, ice, frost
@@ -168,8 +166,7 @@ public final class SleighPost {
         if (sent.state != RESTS) {
             throw new IllegalStateException("it does not rest");
         }
-        sent.state = UNDER_WAY;
-        sent.post = post;
+        sent.depart(post);
         return now.hoursToGoal(sent);
     }
 
@@ -219,7 +216,7 @@ public final class SleighPost {
         if (!isWithin(weight, 1, HEAVIEST) || !isWithin(reindeer, 1, MOST_REINDEER)) {
             throw new IllegalArgumentException("no such weight or so many reindeer");
         }
-        return ways.look(now.lake, now.cellOfPost(from), now.cellOfPost(to), thicknessFor(weight),
+        return now.ways.look(now.lake, now.cellOfPost(from), now.cellOfPost(to), thicknessFor(weight),
                 drag(weight, reindeer, 0));
     }
 
@@ -237,7 +234,7 @@ public final class SleighPost {
         if (!isWithin(hours, 1, LONGEST_PASS)) {
             throw new IllegalArgumentException("hours are 1 to 200");
         }
-        ahead.copyWorld(now);
+        ahead.copyWithoutBags(now);
         Sleigh watched = ahead.sleighAt(sleigh);
         for (int i = 0; watched != null && i < hours && watched.state != SUNK; i++) {
             ahead.goOneHour();
@@ -253,7 +250,7 @@ public final class SleighPost {
         if (asked.state != UNDER_WAY) {
             throw new IllegalStateException("it is not under way");
         }
-        ahead.copyWorld(now);
+        ahead.copyWithoutBags(now);
         Sleigh watched = ahead.sleighAt(sleigh);
         for (int i = 0; watched != null && i < LONGEST_LOOK && watched.state == UNDER_WAY; i++) {
             ahead.goOneHour();
@@ -284,7 +281,7 @@ public final class SleighPost {
         int borne = 0;
         for (int more = 1024; more > 0; more /= 2) {
             int weight = borne + more;
-            if (weight <= HEAVIEST && ways.look(now.lake, from, to, thicknessFor(weight), 0) != NONE) {
+            if (weight <= HEAVIEST && now.ways.look(now.lake, from, to, thicknessFor(weight), 0) != NONE) {
                 borne = weight;
             }
         }
@@ -344,6 +341,8 @@ public final class SleighPost {
         private final boolean[] cracked = new boolean[CELLS];
         private final boolean[] crackedBefore = new boolean[CELLS];
         private final int[] cold = new int[DAYS];
+        /** Grows with whatever may change where a way is: a sleigh without one looks in vain until then. */
+        private int changes;
 
         Lake() {
             Arrays.fill(thickness, 30);
@@ -356,6 +355,7 @@ public final class SleighPost {
             System.arraycopy(other.snow, 0, snow, 0, CELLS);
             System.arraycopy(other.strain, 0, strain, 0, CELLS);
             System.arraycopy(other.cold, 0, cold, 0, DAYS);
+            changes = other.changes;
             for (int i = 0; i < CELLS; i++) {
                 cracked[i] = other.cracked[i];
             }
@@ -366,6 +366,7 @@ public final class SleighPost {
                 thickness[cell] = newThickness;
                 strain[cell] = 0;
                 cracked[cell] = false;
+                changes++;
             }
         }
 
@@ -409,11 +410,13 @@ public final class SleighPost {
             if (thickness[cell] < neededHere + 10) {
                 strain[cell] = Math.min(MOST_STRAIN, strain[cell] + 1);
                 cracked[cell] = cracked[cell] || strain[cell] >= 3;
+                changes++;
             }
         }
 
         void beginDay(int day) {
             int frost = cold[Math.floorMod(day, DAYS)];
+            changes++;
             if (frost > 0) {
                 freeze(frost);
             } else if (frost < 0) {
@@ -509,6 +512,8 @@ public final class SleighPost {
         private int post;
         private int next;
         private int hoursLeft;
+        /** The lake's changes when it last looked for a way in vain. */
+        private int noWayAt;
 
         void begin(int atPost, int onCell, int drawnBy) {
             reindeer = drawnBy;
@@ -527,6 +532,7 @@ public final class SleighPost {
             post = other.post;
             next = other.next;
             hoursLeft = other.hoursLeft;
+            noWayAt = other.noWayAt;
         }
 
         int weight() {
@@ -539,6 +545,12 @@ public final class SleighPost {
 
         int ownDrag() {
             return drag(weight(), reindeer, tired);
+        }
+
+        void depart(int toPost) {
+            state = UNDER_WAY;
+            post = toPost;
+            noWayAt = NONE;
         }
 
         boolean isBetween() {
@@ -593,14 +605,6 @@ public final class SleighPost {
             state = WAITS;
             place = from;
             cameIn = NONE;
-        }
-
-        void copyBag(Bag other) {
-            weight = other.weight;
-            goal = other.goal;
-            state = other.state;
-            place = other.place;
-            cameIn = other.cameIn;
         }
 
         boolean isOn(int sleigh) {
@@ -719,7 +723,7 @@ public final class SleighPost {
 
     /** All that hours change: the lake, the posts on it, the sleighs and their mail. */
     private static final class World {
-        private final Ways ways;
+        private final Ways ways = new Ways();
         private final Lake lake = new Lake();
         private final int[] postCell = new int[MOST_POSTS];
         private final Sleigh[] sleighs = new Sleigh[MOST_SLEIGHS];
@@ -729,8 +733,7 @@ public final class SleighPost {
         private int bagCount;
         private int hour;
 
-        World(Ways waysToUse) {
-            ways = waysToUse;
+        World() {
             for (int i = 0; i < MOST_SLEIGHS; i++) {
                 sleighs[i] = new Sleigh();
             }
@@ -739,18 +742,15 @@ public final class SleighPost {
             }
         }
 
-        void copyWorld(World other) {
+        /** Bags are left out: what goes on with sleighs needs their weight alone, which each sleigh knows. */
+        void copyWithoutBags(World other) {
             lake.copyLake(other.lake);
             System.arraycopy(other.postCell, 0, postCell, 0, MOST_POSTS);
             posts = other.posts;
             sleighCount = other.sleighCount;
-            bagCount = other.bagCount;
             hour = other.hour;
             for (int i = 0; i < MOST_SLEIGHS; i++) {
                 sleighs[i].copySleigh(other.sleighs[i]);
-            }
-            for (int i = 0; i < MOST_BAGS; i++) {
-                bags[i].copyBag(other.bags[i]);
             }
         }
 
@@ -901,12 +901,15 @@ public final class SleighPost {
         private void setOutSleighs() {
             for (int i = 0; i < MOST_SLEIGHS; i++) {
                 Sleigh sleigh = sleighs[i];
-                if (i < sleighCount && sleigh.state == UNDER_WAY && !sleigh.isBetween()) {
+                if (i < sleighCount && sleigh.state == UNDER_WAY && !sleigh.isBetween()
+                        && sleigh.noWayAt != lake.changes) {
                     int need = sleigh.need();
                     int drag = sleigh.ownDrag();
                     ways.look(lake, sleigh.cell, cellOfPost(sleigh.post), need, drag);
                     int next = ways.firstFrom(sleigh.cell);
-                    if (next != NONE) {
+                    if (next == NONE) {
+                        sleigh.noWayAt = lake.changes;
+                    } else {
                         sleigh.beginToGo(next, lake.snowOf(next) + drag);
                         lake.strainUnder(sleigh.cell, need);
                     }
