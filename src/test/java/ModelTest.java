@@ -47,12 +47,17 @@ public final class ModelTest {
         private final int wildness;
         private final int thinnest;
         private final int thickest;
+        private final boolean gentle;
+        /** Hardly anything but sending and waiting: so sleighs become tired. */
+        private final boolean busy;
 
         Run(long seed) {
             this.seed = seed;
             random = new Random(seed);
             wildness = random.nextInt(4) == 0 ? 10 : 60;
-            thinnest = random.nextInt(25);
+            gentle = random.nextInt(2) == 0;
+            busy = random.nextInt(3) == 0;
+            thinnest = random.nextInt(25) + (gentle ? 10 : 0);
             thickest = thinnest + random.nextInt(40);
         }
 
@@ -69,13 +74,16 @@ public final class ModelTest {
         private void prepare() {
             int days = random.nextInt(3);
             for (int day = 0; day < 8; day++) {
-                try1("setCold", day, days == 0 ? 0 : random.nextInt(19) - 9 + (days == 1 ? 0 : -day % 3));
+                int cold = random.nextInt(17) - 8 + (days == 1 ? 0 : -day % 2);
+                try1("setCold", day, days == 0 ? 0 : gentle ? cold / 4 + 1 : cold);
             }
             for (int i = 0; i < 12; i++) {
                 int x = random.nextInt(16);
                 int y = random.nextInt(10);
                 try1("setIce", x, y, 1 + random.nextInt(16 - x), 1 + random.nextInt(10 - y), ice());
             }
+            int land = random.nextInt(10);
+            try1("setIce", 0, land, 16, 1, gentle ? -1 : thickest);
             for (int i = 0; i < 4; i++) {
                 try1("addPost", random.nextInt(16), random.nextInt(10));
             }
@@ -86,7 +94,7 @@ public final class ModelTest {
 
         private int ice() {
             int kind = random.nextInt(10);
-            return kind < 2 ? -1 : kind == 2 ? random.nextInt(201) : thinnest + random.nextInt(thickest - thinnest + 1);
+            return kind < (gentle ? 6 : 2) ? -1 : kind == 2 ? random.nextInt(201) : thinnest + random.nextInt(thickest - thinnest + 1);
         }
 
         /** Mostly 0 to most, at times around it or far off. */
@@ -112,6 +120,9 @@ public final class ModelTest {
         }
 
         private boolean step() {
+            if (busy && random.nextInt(4) > 0) {
+                return keepGoing();
+            }
             int kind = random.nextInt(100);
             if (kind < 5) {
                 return try1("setIce", near(15), near(9), 1 + near(3), 1 + near(3), random.nextInt(20) == 0 ? near(200) : ice());
@@ -128,15 +139,15 @@ public final class ModelTest {
             } else if (kind < 28) {
                 return try1("addBag", aPost(), aPost(), near(30));
             } else if (kind < 42) {
-                return try1("load", aSleigh(), aBag());
+                return loadSomething();
             } else if (kind < 58) {
-                return try1("send", aSleigh(), aPost());
+                return sendSomething();
             } else if (kind < 62) {
                 return try1("sleigh", aSleigh(), near(8));
             } else if (kind < 65) {
                 return try1("bag", aBag(), near(4));
             } else if (kind < 82) {
-                return try1("pass", random.nextInt(8) == 0 ? near(200) : 1 + near(20));
+                return try1("pass", someHours());
             } else if (kind < 84) {
                 return try1("count", near(8));
             } else if (kind < 88) {
@@ -149,6 +160,49 @@ public final class ModelTest {
                 return try1("arrives", aSleigh());
             }
             return try1("mean");
+        }
+
+        /** Mostly what can be loaded: drawn blindly, hardly a bag would come. */
+        private boolean loadSomething() {
+            for (int i = 0; i < 40 && random.nextInt(10) > 0; i++) {
+                int sleigh = random.nextInt(model.sleighs.size() + 1);
+                int bag = random.nextInt(model.bags.size() + 1);
+                if (sleigh < model.sleighs.size() && bag < model.bags.size()) {
+                    Integer there = model.sleighs.get(sleigh).restsAt;
+                    if (there != null && there.equals(model.bags.get(bag).waitsAt)) {
+                        return try1("load", sleigh, bag);
+                    }
+                }
+            }
+            return try1("load", aSleigh(), aBag());
+        }
+
+        private boolean sendSomething() {
+            for (int i = 0; i < 10 && random.nextInt(10) > 0; i++) {
+                int sleigh = random.nextInt(model.sleighs.size() + 1);
+                if (sleigh < model.sleighs.size() && model.sleighs.get(sleigh).restsAt != null) {
+                    return try1("send", sleigh, aPost());
+                }
+            }
+            return try1("send", aSleigh(), aPost());
+        }
+
+        private boolean keepGoing() {
+            for (int i = 0; i < model.sleighs.size(); i++) {
+                if (model.sleighs.get(i).restsAt != null && random.nextInt(10) > 0) {
+                    return try1("send", i, aPost());
+                }
+            }
+            return try1("pass", 1 + random.nextInt(4));
+        }
+
+        /** Often until a sleigh comes: sent on at once, it becomes tired. */
+        private int someHours() {
+            int sleigh = random.nextInt(model.sleighs.size() + 1);
+            if (sleigh < model.sleighs.size() && model.sleighs.get(sleigh).goesTo != null && random.nextInt(4) > 0) {
+                return Math.max(1, model.arrives(sleigh) + 1 - model.count(0));
+            }
+            return random.nextInt(8) == 0 ? near(200) : 1 + near(10);
         }
 
         private boolean try1(String name, int... a) {
