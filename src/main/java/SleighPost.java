@@ -330,7 +330,8 @@ public final class SleighPost {
 
     /** What a cell takes in hours beyond its snow. */
     private static int drag(int weight, int reindeer, int tired) {
-        return weight / (60 * Math.max(1, reindeer)) + (tired >= 50 ? 1 : 0);
+        int pull = 60 * reindeer;
+        return (pull > 0 ? weight / pull : 0) + (tired >= 50 ? 1 : 0);
     }
 
     /** Land and ice with its snow, strain and cracks, and the table of cold. */
@@ -341,8 +342,8 @@ public final class SleighPost {
         private final boolean[] cracked = new boolean[CELLS];
         private final boolean[] crackedBefore = new boolean[CELLS];
         private final int[] cold = new int[DAYS];
-        /** Grows with whatever may change where a way is: a sleigh without one looks in vain until then. */
-        private int changes;
+        /** Grows with whatever may open a way: a sleigh without one looks in vain until then. */
+        private int openings;
 
         Lake() {
             Arrays.fill(thickness, 30);
@@ -355,7 +356,6 @@ public final class SleighPost {
             System.arraycopy(other.snow, 0, snow, 0, CELLS);
             System.arraycopy(other.strain, 0, strain, 0, CELLS);
             System.arraycopy(other.cold, 0, cold, 0, DAYS);
-            changes = other.changes;
             for (int i = 0; i < CELLS; i++) {
                 cracked[i] = other.cracked[i];
             }
@@ -366,7 +366,7 @@ public final class SleighPost {
                 thickness[cell] = newThickness;
                 strain[cell] = 0;
                 cracked[cell] = false;
-                changes++;
+                openings++;
             }
         }
 
@@ -410,13 +410,11 @@ public final class SleighPost {
             if (thickness[cell] < neededHere + 10) {
                 strain[cell] = Math.min(MOST_STRAIN, strain[cell] + 1);
                 cracked[cell] = cracked[cell] || strain[cell] >= 3;
-                changes++;
             }
         }
 
         void beginDay(int day) {
             int frost = cold[Math.floorMod(day, DAYS)];
-            changes++;
             if (frost > 0) {
                 freeze(frost);
             } else if (frost < 0) {
@@ -426,6 +424,7 @@ public final class SleighPost {
         }
 
         private void freeze(int frost) {
+            openings++;
             for (int i = 0; i < CELLS; i++) {
                 if (thickness[i] >= 0) {
                     int growth = frost * 12 / (6 + thickness[i] / 10);
@@ -512,7 +511,7 @@ public final class SleighPost {
         private int post;
         private int next;
         private int hoursLeft;
-        /** The lake's changes when it last looked for a way in vain. */
+        /** The lake's openings when it last looked for a way in vain. */
         private int noWayAt;
 
         void begin(int atPost, int onCell, int drawnBy) {
@@ -532,7 +531,8 @@ public final class SleighPost {
             post = other.post;
             next = other.next;
             hoursLeft = other.hoursLeft;
-            noWayAt = other.noWayAt;
+            // The openings of its own lake are counted, not those of the other one's.
+            noWayAt = NONE;
         }
 
         int weight() {
@@ -750,7 +750,11 @@ public final class SleighPost {
             sleighCount = other.sleighCount;
             hour = other.hour;
             for (int i = 0; i < MOST_SLEIGHS; i++) {
-                sleighs[i].copySleigh(other.sleighs[i]);
+                Sleigh mine = sleighAt(i);
+                Sleigh theirs = other.sleighAt(i);
+                if (mine != null && theirs != null) {
+                    mine.copySleigh(theirs);
+                }
             }
         }
 
@@ -823,7 +827,8 @@ public final class SleighPost {
         int sleighsOn(int cell) {
             int found = 0;
             for (int i = 0; i < MOST_SLEIGHS; i++) {
-                if (i < sleighCount && sleighs[i].state != SUNK && sleighs[i].cell == cell) {
+                Sleigh sleigh = sleighAt(i);
+                if (sleigh != null && sleigh.state != SUNK && sleigh.cell == cell) {
                     found++;
                 }
             }
@@ -833,7 +838,8 @@ public final class SleighPost {
         int bagsOn(int sleigh) {
             int found = 0;
             for (int i = 0; i < MOST_BAGS; i++) {
-                if (i < bagCount && bags[i].isOn(sleigh)) {
+                Bag bag = bagAt(i);
+                if (bag != null && bag.isOn(sleigh)) {
                     found++;
                 }
             }
@@ -859,8 +865,8 @@ public final class SleighPost {
 
         private void sinkSleighs() {
             for (int i = 0; i < MOST_SLEIGHS; i++) {
-                Sleigh sleigh = sleighs[i];
-                if (i < sleighCount && sleigh.state != SUNK && !lake.holds(sleigh.cell, sleigh.need())) {
+                Sleigh sleigh = sleighAt(i);
+                if (sleigh != null && sleigh.state != SUNK && !lake.holds(sleigh.cell, sleigh.need())) {
                     sleigh.sink();
                     loseMailOf(i);
                 }
@@ -869,8 +875,9 @@ public final class SleighPost {
 
         private void loseMailOf(int sleigh) {
             for (int i = 0; i < MOST_BAGS; i++) {
-                if (i < bagCount && bags[i].isOn(sleigh)) {
-                    bags[i].lose();
+                Bag bag = bagAt(i);
+                if (bag != null && bag.isOn(sleigh)) {
+                    bag.lose();
                 }
             }
         }
@@ -878,8 +885,8 @@ public final class SleighPost {
         private int moveSleighs() {
             int came = 0;
             for (int i = 0; i < MOST_SLEIGHS; i++) {
-                Sleigh sleigh = sleighs[i];
-                if (i < sleighCount && sleigh.isBetween() && sleigh.comesOn()
+                Sleigh sleigh = sleighAt(i);
+                if (sleigh != null && sleigh.isBetween() && sleigh.comesOn()
                         && sleigh.cell == cellOfPost(sleigh.post)) {
                     sleigh.restAtGoal();
                     came += unload(i, sleigh.post);
@@ -891,7 +898,8 @@ public final class SleighPost {
         private int unload(int sleigh, int post) {
             int came = 0;
             for (int i = 0; i < MOST_BAGS; i++) {
-                if (i < bagCount && bags[i].isOn(sleigh) && bags[i].putDown(post, hour)) {
+                Bag bag = bagAt(i);
+                if (bag != null && bag.isOn(sleigh) && bag.putDown(post, hour)) {
                     came++;
                 }
             }
@@ -900,15 +908,15 @@ public final class SleighPost {
 
         private void setOutSleighs() {
             for (int i = 0; i < MOST_SLEIGHS; i++) {
-                Sleigh sleigh = sleighs[i];
-                if (i < sleighCount && sleigh.state == UNDER_WAY && !sleigh.isBetween()
-                        && sleigh.noWayAt != lake.changes) {
+                Sleigh sleigh = sleighAt(i);
+                if (sleigh != null && sleigh.state == UNDER_WAY && !sleigh.isBetween()
+                        && sleigh.noWayAt != lake.openings) {
                     int need = sleigh.need();
                     int drag = sleigh.ownDrag();
                     ways.look(lake, sleigh.cell, cellOfPost(sleigh.post), need, drag);
                     int next = ways.firstFrom(sleigh.cell);
                     if (next == NONE) {
-                        sleigh.noWayAt = lake.changes;
+                        sleigh.noWayAt = lake.openings;
                     } else {
                         sleigh.beginToGo(next, lake.snowOf(next) + drag);
                         lake.strainUnder(sleigh.cell, need);
@@ -919,8 +927,9 @@ public final class SleighPost {
 
         private void restSleighs() {
             for (int i = 0; i < MOST_SLEIGHS; i++) {
-                if (i < sleighCount && sleighs[i].state == RESTS) {
-                    sleighs[i].recover();
+                Sleigh sleigh = sleighAt(i);
+                if (sleigh != null && sleigh.state == RESTS) {
+                    sleigh.recover();
                 }
             }
         }
@@ -995,7 +1004,8 @@ public final class SleighPost {
         private int sunkSleighs() {
             int found = 0;
             for (int i = 0; i < MOST_SLEIGHS; i++) {
-                if (i < sleighCount && sleighs[i].state == SUNK) {
+                Sleigh sleigh = sleighAt(i);
+                if (sleigh != null && sleigh.state == SUNK) {
                     found++;
                 }
             }
@@ -1005,7 +1015,8 @@ public final class SleighPost {
         private int bagsThat(int state) {
             int found = 0;
             for (int i = 0; i < MOST_BAGS; i++) {
-                if (i < bagCount && bags[i].state == state) {
+                Bag bag = bagAt(i);
+                if (bag != null && bag.state == state) {
                     found++;
                 }
             }
@@ -1024,8 +1035,8 @@ public final class SleighPost {
 
         long digestSleighs(long before) {
             long d = before;
-            for (int i = 0; i < MOST_SLEIGHS && i < sleighCount; i++) {
-                for (int what = 0; what < SLEIGH_ANSWERS; what++) {
+            for (int i = 0; i < MOST_SLEIGHS; i++) {
+                for (int what = 0; sleighAt(i) != null && what < SLEIGH_ANSWERS; what++) {
                     d = d * 31 + tellSleigh(i, what);
                 }
             }
@@ -1034,9 +1045,10 @@ public final class SleighPost {
 
         long digestBags(long before) {
             long d = before;
-            for (int i = 0; i < MOST_BAGS && i < bagCount; i++) {
-                for (int what = 0; what < BAG_ANSWERS; what++) {
-                    d = d * 31 + bags[i].tell(what);
+            for (int i = 0; i < MOST_BAGS; i++) {
+                Bag bag = bagAt(i);
+                for (int what = 0; bag != null && what < BAG_ANSWERS; what++) {
+                    d = d * 31 + bag.tell(what);
                 }
             }
             return d;

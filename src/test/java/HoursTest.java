@@ -28,19 +28,6 @@ public final class HoursTest {
         CHECKS.end();
     }
 
-    /** A row of cells from the post 0 at its left end to the post 1 at its right end, on a lake that bears nobody. */
-    private static SleighPost corridor(int last, int thickness) {
-        SleighPost post = new SleighPost();
-        post.setIce(0, 0, 16, 10, 0);
-        post.addPost(0, 5);
-        post.addPost(last, 5);
-        post.setIce(1, 5, last - 1, 1, thickness);
-        for (int day = 0; day < 8; day++) {
-            post.setCold(day, 0);
-        }
-        return post;
-    }
-
     private static void hoursAreRefused() {
         SleighPost post = new SleighPost();
         for (int hours : new int[] {0, 201, -1, Integer.MAX_VALUE, Integer.MIN_VALUE}) {
@@ -52,7 +39,7 @@ public final class HoursTest {
     }
 
     private static void paces() {
-        SleighPost post = corridor(4, -1);
+        SleighPost post = Lakes.corridor(4, -1);
         CHECKS.same("way to the same post", post.way(0, 0, 2000, 1), 0);
         CHECKS.same("way of 4 cells", post.way(0, 1, 59, 1), 4);
         CHECKS.same("a weight of 60", post.way(0, 1, 60, 1), 8);
@@ -75,7 +62,7 @@ public final class HoursTest {
     }
 
     private static void waysAreRefused() {
-        SleighPost post = corridor(4, -1);
+        SleighPost post = Lakes.corridor(4, -1);
         for (int far : FAR) {
             CHECKS.refuses("way from " + far, post, INDEX, () -> post.way(far, 0, 0, 0));
             CHECKS.refuses("way to " + far, post, INDEX, () -> post.way(0, far, 0, 0));
@@ -112,7 +99,7 @@ public final class HoursTest {
     }
 
     private static void bearing() {
-        SleighPost post = corridor(9, 30);
+        SleighPost post = Lakes.corridor(9, 30);
         CHECKS.same("ice of 30", post.bears(0, 1), 12 * 22 + 11);
         CHECKS.same("the same post", post.bears(1, 1), 2000);
         post.setIce(4, 5, 1, 1, 8);
@@ -134,7 +121,7 @@ public final class HoursTest {
 
     /** A sleigh of one reindeer needs 13, takes 2 hours for a cell, and strains ice of less than 23. */
     private static void strainCracksAndSinking() {
-        SleighPost post = corridor(15, 22);
+        SleighPost post = Lakes.corridor(15, 22);
         post.addSleigh(0, 1);
         post.addBag(1, 0, 3);
         CHECKS.same("send", post.send(0, 1), 30);
@@ -174,7 +161,7 @@ public final class HoursTest {
 
     /** Three crossings of the first cells; the last ice has a strain of 2 only. */
     private static SleighPost crackedCorridor() {
-        SleighPost post = corridor(15, 22);
+        SleighPost post = Lakes.corridor(15, 22);
         post.addSleigh(0, 1);
         for (int trip = 0; trip < 3; trip++) {
             post.send(0, trip % 2 == 0 ? 1 : 0);
@@ -229,7 +216,7 @@ public final class HoursTest {
     }
 
     private static void strainByThickness() {
-        SleighPost post = corridor(4, 22);
+        SleighPost post = Lakes.corridor(4, 22);
         post.setIce(2, 5, 1, 1, 23);
         post.setIce(3, 5, 1, 1, -1);
         post.addSleigh(0, 1);
@@ -243,7 +230,7 @@ public final class HoursTest {
 
     /** Ice of 28 is strained and cracked by a sleigh that needs 21; one that needs 13 goes on over the crack. */
     private static void mostStrain() {
-        SleighPost post = corridor(3, 28);
+        SleighPost post = Lakes.corridor(3, 28);
         post.setIce(2, 5, 1, 1, -1);
         post.addSleigh(0, 4);
         post.addSleigh(0, 1);
@@ -271,7 +258,7 @@ public final class HoursTest {
 
     /** A sleigh of six reindeer takes an hour for a cell, and 2 when it is tired 50. */
     private static void tiredSleighs() {
-        SleighPost post = corridor(15, -1);
+        SleighPost post = Lakes.corridor(15, -1);
         post.addSleigh(0, 6);
         for (int trip = 0; trip < 3; trip++) {
             CHECKS.same("send", post.send(0, trip % 2 == 0 ? 1 : 0), 15);
@@ -293,7 +280,7 @@ public final class HoursTest {
     }
 
     private static void tiredAtMostHundred() {
-        SleighPost post = corridor(15, -1);
+        SleighPost post = Lakes.corridor(15, -1);
         post.addSleigh(0, 6);
         for (int trip = 0; trip < 9; trip++) {
             post.send(0, trip % 2 == 0 ? 1 : 0);
@@ -305,7 +292,7 @@ public final class HoursTest {
     /** The sleigh needs 13; it is on ice of 12 when the day begins. */
     private static void frostAheadOfSinking() {
         for (int cold = -1; cold <= 1; cold++) {
-            SleighPost post = corridor(4, 16);
+            SleighPost post = Lakes.corridor(4, 16);
             post.addSleigh(0, 1);
             post.setSnow(2, 5, 9);
             post.pass(19);
@@ -317,7 +304,7 @@ public final class HoursTest {
             post.pass(1);
             CHECKS.same("after the first hour of the day", post.sleigh(0, 3), cold == -1 ? 2 : 1);
         }
-        SleighPost post = corridor(4, 16);
+        SleighPost post = Lakes.corridor(4, 16);
         post.addSleigh(0, 1);
         post.pass(21);
         post.setCold(1, 1);
@@ -332,7 +319,7 @@ public final class HoursTest {
     }
 
     private static void beginsWhereItIsNotBorne() {
-        SleighPost post = corridor(4, 30);
+        SleighPost post = Lakes.corridor(4, 30);
         post.addSleigh(0, 6);
         post.send(0, 1);
         post.pass(1);
@@ -349,7 +336,7 @@ public final class HoursTest {
 
     /** Two sleighs leave a cell in one hour; the first one cracks it. Both need 13. */
     private static void orderOfSettingOut() {
-        SleighPost post = corridor(4, 22);
+        SleighPost post = Lakes.corridor(4, 22);
         post.setIce(2, 5, 1, 1, 40);
         for (int i = 0; i < 3; i++) {
             post.addSleigh(0, 1);
@@ -367,7 +354,7 @@ public final class HoursTest {
     }
 
     private static void lookingAheadChangesNothing() {
-        SleighPost post = corridor(15, 22);
+        SleighPost post = Lakes.corridor(15, 22);
         post.addSleigh(0, 1);
         post.addSleigh(1, 3);
         post.addBag(0, 1, 20);
@@ -391,7 +378,7 @@ public final class HoursTest {
 
     /** Looking ahead 300 hours: a sleigh that comes in the last of them arrives, one that comes later does not. */
     private static void longLook() {
-        SleighPost post = corridor(15, -1);
+        SleighPost post = Lakes.corridor(15, -1);
         post.addSleigh(0, 1);
         post.setIce(7, 5, 1, 1, 0);
         for (int day = 0; day < 8; day++) {
@@ -410,7 +397,7 @@ public final class HoursTest {
         post.pass(1);
         post.setSnow(1, 5, 1);
         CHECKS.same("in the hour 302", post.arrives(0), 302);
-        SleighPost slow = corridor(15, -1);
+        SleighPost slow = Lakes.corridor(15, -1);
         slow.addSleigh(0, 1);
         for (int i = 0; i < 40; i++) {
             slow.addBag(0, 1, 30);
@@ -425,7 +412,7 @@ public final class HoursTest {
     }
 
     private static void lookingAheadIsRefused() {
-        SleighPost post = corridor(4, -1);
+        SleighPost post = Lakes.corridor(4, -1);
         post.addSleigh(0, 1);
         for (int far : FAR) {
             CHECKS.refuses("foresee of " + far, post, INDEX, () -> post.foresee(far, 0));

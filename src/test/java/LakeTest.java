@@ -1,4 +1,4 @@
-/** Promises 1 to 5 and 19: a new object, land, ice, snow, cold, the mean; and frost and thaw by the day. */
+/** Promises 2 to 5 and 19: land, ice, snow, cold, the mean; and frost and thaw by the day. */
 public final class LakeTest {
     private static final Class<IllegalArgumentException> ARGUMENT = IllegalArgumentException.class;
     private static final Class<IllegalStateException> STATE = IllegalStateException.class;
@@ -7,7 +7,6 @@ public final class LakeTest {
     private static final Checks CHECKS = new Checks();
 
     public static void main(String[] args) {
-        newObject();
         iceIsLaid();
         iceIsRefused();
         iceAroundPostsAndSleighs();
@@ -19,24 +18,6 @@ public final class LakeTest {
         thawByDays();
         tableOfEightDays();
         CHECKS.end();
-    }
-
-    private static void newObject() {
-        SleighPost post = new SleighPost();
-        int[] counts = {0, 0, 0, 0, 0, 0, 0, 0, 4800};
-        for (int what = 0; what < counts.length; what++) {
-            CHECKS.same("new: count " + what, post.count(what), counts[what]);
-        }
-        int[] cell = {30, 1, 0, 0, -1, 0};
-        for (int i = 0; i < 160; i++) {
-            for (int what = 0; what < cell.length; what++) {
-                CHECKS.same("new: cell " + i + " " + what, post.cell(i % 16, i / 16, what), cell[what]);
-            }
-        }
-        CHECKS.same("new: mean", post.mean(), 30);
-        for (int day = 0; day < 8; day++) {
-            CHECKS.same("new: cold of day " + day, post.setCold(day, 5), 5);
-        }
     }
 
     private static void iceIsLaid() {

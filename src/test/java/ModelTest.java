@@ -39,17 +39,20 @@ public final class ModelTest {
     }
 
     private static final class Run {
+        /** What later calls answer is free. */
+        private static final int MOST_CALLS = 512;
+
         private final long seed;
         private final Random random;
         private final SleighPost post = new SleighPost();
         private final Model model = new Model();
-        private final List<String> told = new ArrayList<>();
         private final int wildness;
         private final int thinnest;
         private final int thickest;
         private final boolean gentle;
         /** Hardly anything but sending and waiting: so sleighs become tired. */
         private final boolean busy;
+        private int calls;
 
         Run(long seed) {
             this.seed = seed;
@@ -63,12 +66,12 @@ public final class ModelTest {
 
         boolean isRight() {
             prepare();
-            while (told.size() < 512) {
+            while (calls < MOST_CALLS - 2) {
                 if (!step()) {
                     return false;
                 }
             }
-            return true;
+            return isDigestRight("at the end");
         }
 
         private void prepare() {
@@ -206,15 +209,23 @@ public final class ModelTest {
         }
 
         private boolean try1(String name, int... a) {
-            String got = ask(() -> onPost(name, a)) + " digest " + post.digest();
-            String due = ask(() -> onModel(name, a)) + " digest " + model.digest();
-            told.add(name + java.util.Arrays.toString(a) + " " + due);
+            String call = name + java.util.Arrays.toString(a);
+            String got = ask(() -> onPost(name, a));
+            String due = ask(() -> onModel(name, a));
+            calls++;
             if (!got.equals(due)) {
-                CHECKS.report("seed " + seed + ", call " + told.size() + ": " + name + java.util.Arrays.toString(a)
-                        + " answered " + got + ", the model " + due);
+                CHECKS.report("seed " + seed + ", call " + calls + ": " + call + " answered " + got + ", the model " + due);
                 return false;
             }
-            return true;
+            return random.nextInt(3) > 0 || isDigestRight("after " + call);
+        }
+
+        private boolean isDigestRight(String when) {
+            long got = post.digest();
+            long due = model.digest();
+            calls++;
+            CHECKS.sameLong("seed " + seed + ", call " + calls + ": digest " + when, got, due);
+            return got == due;
         }
 
         private String onPost(String name, int[] a) {
