@@ -794,19 +794,21 @@ public final class SleighPost {
         }
 
         int harness(int post, int reindeer) {
-            if (sleighCount < 0 || sleighCount >= MOST_SLEIGHS) {
+            Sleigh next = sleighCount >= 0 && sleighCount < MOST_SLEIGHS ? sleighs[sleighCount] : null;
+            if (next == null) {
                 return NONE;
             }
-            sleighs[sleighCount].begin(post, cellOfPost(post), reindeer);
+            next.begin(post, cellOfPost(post), reindeer);
             sleighCount++;
             return sleighCount - 1;
         }
 
         int postMail(int from, int to, int weight) {
-            if (bagCount < 0 || bagCount >= MOST_BAGS) {
+            Bag next = bagCount >= 0 && bagCount < MOST_BAGS ? bags[bagCount] : null;
+            if (next == null) {
                 return NONE;
             }
-            bags[bagCount].begin(from, to, weight);
+            next.begin(from, to, weight);
             bagCount++;
             return bagCount - 1;
         }

@@ -29,6 +29,8 @@ public final class FaceTest {
 
     public static void main(String[] args) throws Exception {
         members();
+        membersInside();
+        declarations();
         source();
         CHECKS.end();
     }
@@ -48,12 +50,7 @@ public final class FaceTest {
         if (!visible.equals(new TreeSet<>(Arrays.asList(FACE)))) {
             CHECKS.report("the visible methods are " + visible);
         }
-        for (String line : FACE) {
-            String name = line.substring(line.lastIndexOf(' ') + 1, line.indexOf('('));
-            if (hidden.contains(name)) {
-                CHECKS.report("a private method is named " + name);
-            }
-        }
+        notNamedLikeTheFace(hidden);
         for (Field field : face.getDeclaredFields()) {
             CHECKS.same(field + " is private", field.getModifiers() & Modifier.PRIVATE, Modifier.PRIVATE);
         }
@@ -61,6 +58,57 @@ public final class FaceTest {
         CHECKS.same("constructors", constructors.length, 1);
         CHECKS.same("its parameters", constructors[0].getParameterCount(), 0);
         CHECKS.same("public", constructors[0].getModifiers(), Modifier.PUBLIC);
+    }
+
+    private static void membersInside() {
+        TreeSet<String> hidden = new TreeSet<>();
+        for (Class<?> inside : SleighPost.class.getDeclaredClasses()) {
+            int kind = inside.getModifiers();
+            if (!Modifier.isStatic(kind) || Modifier.isPublic(kind) || Modifier.isProtected(kind)) {
+                CHECKS.report(inside + " is visible or not static");
+            }
+            for (Method method : inside.getDeclaredMethods()) {
+                if (Modifier.isPrivate(method.getModifiers())) {
+                    hidden.add(method.getName());
+                }
+            }
+            for (Field field : inside.getDeclaredFields()) {
+                if (Modifier.isStatic(field.getModifiers()) && !Modifier.isFinal(field.getModifiers())) {
+                    CHECKS.report(field + " is static, but not final");
+                }
+            }
+        }
+        notNamedLikeTheFace(hidden);
+    }
+
+    private static void notNamedLikeTheFace(TreeSet<String> hidden) {
+        for (String line : FACE) {
+            String name = line.substring(line.lastIndexOf(' ') + 1, line.indexOf('('));
+            if (hidden.contains(name)) {
+                CHECKS.report("a private method is named " + name);
+            }
+        }
+    }
+
+    /** Each line of the document's face stands in the source as it is there, with its exceptions in their order. */
+    private static void declarations() throws Exception {
+        String source = inOneLine(Files.readString(Path.of("src/main/java/SleighPost.java"), StandardCharsets.UTF_8));
+        String document = Files.readString(Path.of("../shared/DOC.md"), StandardCharsets.UTF_8);
+        int found = 0;
+        for (String line : document.split("\n")) {
+            if (line.startsWith("    public ") && line.endsWith(";")) {
+                found++;
+                String declaration = inOneLine(line.substring(0, line.length() - 1)) + " {";
+                if (!source.contains(declaration)) {
+                    CHECKS.report("the source has no " + declaration);
+                }
+            }
+        }
+        CHECKS.same("members of the document's face", found, FACE.length + 1);
+    }
+
+    private static String inOneLine(String text) {
+        return text.trim().replaceAll("\\s+", " ");
     }
 
     private static String signature(Method method) {
